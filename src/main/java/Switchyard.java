@@ -17,6 +17,7 @@ public final class Switchyard {
     private static final int MOST_WEIGHT = 4;
     private static final int LEAST_SIZE = 20;
     private static final int MOST_SIZE = 500;
+    private static final int FIRST_LIMIT = 2000;
     private static final int LEAST_LIMIT = 50;
     private static final int MOST_LIMIT = 5000;
     private static final int MOST_AHEAD = 5000;
@@ -549,7 +550,7 @@ public final class Switchyard {
         }
 
         static boolean fits(int prefix, int address) {
-            return ((prefix >> 5) ^ address) >> (ADDRESS_BITS - (prefix & 31)) == 0;
+            return (addressOf(prefix) ^ address) >> (ADDRESS_BITS - lengthOf(prefix)) == 0;
         }
 
         static int commonLength(int address, int other) {
@@ -687,7 +688,7 @@ public final class Switchyard {
             int best = NONE;
             int bestLength = NONE;
             for (int i = 0; i < count; i++) {
-                int length = prefixes[i] & 31;
+                int length = Prefix.lengthOf(prefixes[i]);
                 if (length > bestLength && Prefix.fits(prefixes[i], address)) {
                     best = i;
                     bestLength = length;
@@ -913,6 +914,39 @@ public final class Switchyard {
         }
     }
 
+    // A packet is held as one number, that nothing needs to be made for it: from the lowest bit on its flow (4 bits),
+    // its own number (6), its class (2), its size (9), and the life that is left.
+    private static final class Packet {
+        static int of(int flow, int number, int size, int ofClass) {
+            return flow | number << 4 | ofClass << 10 | size << 12 | FULL_LIFE << 21;
+        }
+
+        static int flowOf(int packet) {
+            return packet & 15;
+        }
+
+        static int numberOf(int packet) {
+            return (packet >> 4) & 63;
+        }
+
+        static int classOf(int packet) {
+            return (packet >> 10) & 3;
+        }
+
+        static int sizeOf(int packet) {
+            return (packet >> 12) & 511;
+        }
+
+        static int lifeOf(int packet) {
+            return packet >> 21;
+        }
+
+        // with a life that is 1 less
+        static int older(int packet) {
+            return packet - (1 << 21);
+        }
+    }
+
     // What is on its way along a link in one direction.
     private static final class Line {
         // at most two letters are written in a call, so the 512 calls of an object never come to as many
@@ -1002,18 +1036,17 @@ public final class Switchyard {
         }
     }
 
-    // One end of a link, with the line that leads away from it. A packet is held as its flow's number *
-    // MOST_PACKETS + its own. All that wait stand in one row, as they came; the queue of a class is those of it.
+    // One end of a link, with the line that leads away from it. All packets that wait stand in one row, as they
+    // came, so that a new discipline finds them in order; the queue of a class is those of it.
     private static final class Port {
         static final int MOST_WAITING = MOST_LIMIT / LEAST_SIZE;
         static final int SHARE = 100;
         // far more than the shares that the longest packet takes
         static final int MOST_TURNS = 100;
 
-        final Flow[] flows;
         final Line line = new Line();
-        int discipline;
-        int limit;
+        int discipline = FIRST_COME;
+        int limit = FIRST_LIMIT;
         boolean isEarly;
         int earlyCount;
         final int[] weights = new int[CLASSES];
@@ -1023,13 +1056,11 @@ public final class Switchyard {
         final int[] queue = new int[MOST_WAITING];
         int queueLength;
         int bytes;
-        int packet;
+        // the one that is being sent, or NONE
+        int packet = NONE;
         int bytesLeft;
 
-        Port(Flow[] flows) {
-            this.flows = flows;
-            limit = 2000;
-            packet = NONE;
+        Port() {
             for (int ofClass = 0; ofClass < CLASSES; ofClass++) {
                 weights[ofClass] = 1;
             }
@@ -1053,7 +1084,7 @@ public final class Switchyard {
 
         // returns the reason for which the packet is dropped, or NONE as it waits
         int accept(int comer) {
-            int size = sizeOf(comer);
+            int size = Packet.sizeOf(comer);
             if (bytes + size > limit || queueLength >= MOST_WAITING) {
                 return OVER_LIMIT;
             }
@@ -1089,7 +1120,7 @@ public final class Switchyard {
                 return;
             }
             packet = queue[place];
-            bytesLeft = sizeOf(packet);
+            bytesLeft = Packet.sizeOf(packet);
             bytes -= bytesLeft;
             for (int i = place + 1; i < queueLength; i++) {
                 queue[i - 1] = queue[i];
@@ -1128,7 +1159,7 @@ public final class Switchyard {
                         deficits[turn] += SHARE * weights[turn];
                         hasShare = true;
                     }
-                    int size = sizeOf(queue[place]);
+                    int size = Packet.sizeOf(queue[place]);
                     if (deficits[turn] >= size) {
                         deficits[turn] -= size;
                         return place;
@@ -1142,7 +1173,7 @@ public final class Switchyard {
 
         private int firstOf(int ofClass) {
             for (int i = 0; i < queueLength; i++) {
-                if (classOf(queue[i]) == ofClass) {
+                if (Packet.classOf(queue[i]) == ofClass) {
                     return i;
                 }
             }
@@ -1152,39 +1183,31 @@ public final class Switchyard {
         int countOf(int ofClass) {
             int many = 0;
             for (int i = 0; i < queueLength; i++) {
-                many += classOf(queue[i]) == ofClass ? 1 : 0;
+                many += Packet.classOf(queue[i]) == ofClass ? 1 : 0;
             }
             return many;
         }
 
-        private int sizeOf(int ofPacket) {
-            return flows[ofPacket / MOST_PACKETS].size;
-        }
-
-        private int classOf(int ofPacket) {
-            return flows[ofPacket / MOST_PACKETS].ofClass;
-        }
-
-        // drops all that waits here, is sent, or is on the line
-        void lose() {
+        // drops all that waits here, is sent, or is on the line; tells it to the flows
+        void lose(Flow[] flows) {
             for (int i = 0; i < queueLength; i++) {
-                loseOne(queue[i]);
+                loseOne(flows, queue[i]);
             }
             queueLength = 0;
             bytes = 0;
-            loseOne(packet);
+            loseOne(flows, packet);
             packet = NONE;
             bytesLeft = 0;
             for (int slot = 0; slot < Line.SLOTS; slot++) {
-                loseOne(line.takePacket(slot));
+                loseOne(flows, line.takePacket(slot));
             }
             line.letterCount = 0;
             clearTurns();
         }
 
-        private void loseOne(int lost) {
+        private static void loseOne(Flow[] flows, int lost) {
             if (lost != NONE) {
-                flows[lost / MOST_PACKETS].drops[LINK_LOST]++;
+                flows[Packet.flowOf(lost)].drops[LINK_LOST]++;
             }
         }
 
@@ -1213,13 +1236,8 @@ public final class Switchyard {
         int rate;
         int delay;
         boolean isUp;
-        final Port atA;
-        final Port atB;
-
-        Link(Flow[] flows) {
-            atA = new Port(flows);
-            atB = new Port(flows);
-        }
+        final Port atA = new Port();
+        final Port atB = new Port();
 
         boolean touches(int router) {
             return router == a || router == b;
@@ -1355,14 +1373,13 @@ public final class Switchyard {
         final Flow[] flows = new Flow[MOST_FLOWS];
         final PrefixList networks = new PrefixList(MOST_NETWORKS);
         final PrefixList statics = new PrefixList(MOST_STATICS);
-        final int[] lives = new int[MOST_FLOWS * MOST_PACKETS];
 
         Net() {
             for (int i = 0; i < MOST_FLOWS; i++) {
                 flows[i] = new Flow();
             }
             for (int i = 0; i < MOST_LINKS; i++) {
-                links[i] = new Link(flows);
+                links[i] = new Link();
             }
             for (int i = 0; i < MOST_ROUTERS; i++) {
                 routers[i] = new Router(i, new Letter(i, 0, 0, new int[MOST_LINKS], new int[0]));
@@ -1410,8 +1427,8 @@ public final class Switchyard {
         void cut(int number) {
             Link link = links[number];
             link.isUp = false;
-            link.atA.lose();
-            link.atB.lose();
+            link.atA.lose(flows);
+            link.atB.lose(flows);
             writeLetter(link.a);
             writeLetter(link.b);
         }
@@ -1535,8 +1552,7 @@ public final class Switchyard {
             flow.gainTokens();
             int due = flow.dueIn(time);
             if (due != NONE) {
-                int packet = number * MOST_PACKETS + due;
-                lives[packet] = FULL_LIFE;
+                int packet = Packet.of(number, due, flow.size, flow.ofClass);
                 flow.offered++;
                 if (flow.isShaped()) {
                     flow.push(packet);
@@ -1554,10 +1570,10 @@ public final class Switchyard {
             if (packet == NONE) {
                 return;
             }
-            Flow flow = flows[packet / MOST_PACKETS];
-            int link = linkToward(router, packet / MOST_PACKETS);
+            Flow flow = flows[Packet.flowOf(packet)];
+            int link = linkToward(router, Packet.flowOf(packet));
             if (link == HERE) {
-                flow.deliver(packet % MOST_PACKETS, time);
+                flow.deliver(Packet.numberOf(packet), time);
                 return;
             }
             int reason = link == NOT_FOUND ? NO_ENTRY : sendOn(router, packet, links[link]);
@@ -1568,11 +1584,10 @@ public final class Switchyard {
 
         // returns the reason for which the packet is dropped, or NONE as it waits
         private int sendOn(int router, int packet, Link link) {
-            lives[packet]--;
-            if (lives[packet] <= 0) {
+            if (Packet.lifeOf(packet) <= 1) {
                 return LIFE_OVER;
             }
-            return link.isUp ? link.portAt(router).accept(packet) : LINK_DOWN;
+            return link.isUp ? link.portAt(router).accept(Packet.older(packet)) : LINK_DOWN;
         }
 
         int linkToward(int router, int flow) {
@@ -1638,7 +1653,6 @@ public final class Switchyard {
             }
             networks.copyFrom(other.networks);
             statics.copyFrom(other.statics);
-            System.arraycopy(other.lives, 0, lives, 0, lives.length);
         }
     }
 }

@@ -49,7 +49,8 @@ final class Check {
         refuses(x, what, IllegalStateException.class, call);
     }
 
-    void count(boolean isAsDue, String what) {
+    // several runs of ModelTest go on at once
+    synchronized void count(boolean isAsDue, String what) {
         if (isAsDue) {
             passed++;
         } else {

@@ -7,6 +7,7 @@ import java.util.HashMap;
 import java.util.List;
 import java.util.Map;
 import java.util.Random;
+import java.util.stream.IntStream;
 
 // Runs of up to 512 calls, the same ones each time, on a Switchyard and on the Model: every answer must be the same.
 // The first argument, if there is one, tells how many runs; the second one the seed of the first run.
@@ -52,10 +53,7 @@ public final class ModelTest {
             }
         }
         Check check = new Check("ModelTest");
-        for (int i = 0; i < runs; i++) {
-            ModelTest test = new ModelTest(check, seed + i);
-            test.run(seed + i);
-        }
+        IntStream.range(0, runs).parallel().forEach(i -> new ModelTest(check, seed + i).run(seed + i));
         check.end();
     }
 
