@@ -5,6 +5,7 @@ public final class AheadTest {
     public static void main(String[] args) {
         promise49DeliveredIn();
         promise49AllStates();
+        promise49WholeMinute();
         promise49WrongNumbers();
         promise50SettledIn();
         promise50WrongNumbers();
@@ -98,6 +99,31 @@ public final class AheadTest {
             early += x.dropped(flow, 5);
         }
         c.count(delivered > 30 && early > 0, "49: there was something to tell: " + delivered + ", " + early);
+    }
+
+    // at several times what is told of each of the next 60 ticks, against what then comes true
+    private static void promise49WholeMinute() {
+        for (int start : new int[] {0, 5, 12, 21, 31, 35, 41, 50, 61}) {
+            Switchyard x = busy();
+            for (int tick = 0; tick < start; tick++) {
+                goOn(x, tick);
+            }
+            int[][] ahead = new int[8][61];
+            for (int flow = 0; flow < 8; flow++) {
+                for (int ticks = 1; ticks <= 60; ticks++) {
+                    ahead[flow][ticks] = x.deliveredIn(flow, ticks);
+                }
+            }
+            int settled = x.settledIn(60);
+            c.same("50: at " + start, settled == 0, x.isSettled());
+            for (int ticks = 1; ticks <= 60; ticks++) {
+                x.step(1);
+                for (int flow = 0; flow < 8; flow++) {
+                    c.same("49: flow " + flow + " at " + start + " in " + ticks, ahead[flow][ticks], x.delivered(flow));
+                }
+                c.count(ticks > settled || (ticks == settled) == x.isSettled(), "50: at " + start + " in " + ticks);
+            }
+        }
     }
 
     private static void promise49WrongNumbers() {

@@ -7,6 +7,7 @@ public final class KnowsTest {
         promise23OlderLetters();
         promise23ALetterStaysAsWritten();
         promise24Letters();
+        promise24ManyLetters();
         promise25IsSettled();
         promise26Distance();
         promise26CostsByDirection();
@@ -98,6 +99,34 @@ public final class KnowsTest {
         x.addNetwork(3, 0, 0);
         x.step(4);
         c.same("24: 0 sends it on along the two others", x.letters(), 2);
+    }
+
+    // three letters in each tick, and many more at once, along one link
+    private static void promise24ManyLetters() {
+        Switchyard x = NetworkTest.withRouters(2);
+        x.addLink(0, 1, 1, 1, 20);
+        x.step(30);
+        for (int i = 0; i < 20; i++) {
+            for (int j = 0; j < 3; j++) {
+                x.setCost(0, 2 + (3 * i + j) % 2);
+            }
+            x.step(1);
+        }
+        c.same("24: three of each in 20 ticks", x.letters(), 120);
+        for (int i = 1; i <= 20; i++) {
+            x.step(1);
+            c.same("24: three of each come in a tick", x.letters(), 120 - 6 * i);
+            c.same("23: the last one of them", x.letterOf(1, 0), 1 + 3 * i);
+        }
+        for (int i = 0; i < 300; i++) {
+            x.setCost(0, 4 + i % 2);
+        }
+        c.same("24: all at once", x.letters(), 600);
+        x.step(20);
+        c.same("24: they are on their way", x.letters(), 600);
+        x.step(1);
+        c.same("24: they came", x.letters(), 0);
+        c.same("23: the last one", x.letterOf(1, 0), 361);
     }
 
     private static void promise25IsSettled() {

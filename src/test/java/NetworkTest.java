@@ -213,7 +213,8 @@ public final class NetworkTest {
         c.same("6: the same at another router", x.addNetwork(1, 0, 0), 2);
         c.same("6: the same address with another length", x.addNetwork(0, 0, 1), 3);
         c.same("6: its router writes", x.letterOf(0, 0), 3);
-        c.notNow(x, "6: the same prefix", () -> x.addNetwork(0, 65535, 16));
+        c.notNow(x, "6: the same prefix as that of 0", () -> x.addNetwork(0, 0, 0));
+        c.notNow(x, "6: the same prefix as that of 1", () -> x.addNetwork(0, 65535, 16));
         c.noSuch(x, "6: no router -1", () -> x.addNetwork(-1, 0, 3));
         c.noSuch(x, "6: no router 2, and all wrong", () -> x.addNetwork(2, -1, 17));
         c.wrong(x, "6: address -1", () -> x.addNetwork(0, -1, 16));

@@ -6,6 +6,7 @@ public final class PortsTest {
         promise36To40FirstCome();
         promise36To40AtB();
         promise36Limit();
+        promise36FirstLimit();
         promise36Early();
         promise37ByClasses();
         promise39InTurns();
@@ -94,6 +95,24 @@ public final class PortsTest {
         c.same("36: not above it", x.waiting(0, false), 100);
         c.same("45: dropped for 4", x.dropped(0, 4), 1);
         c.same("45: it was not EARLY", x.dropped(0, 5), 0);
+    }
+
+    private static void promise36FirstLimit() {
+        Switchyard x = NetworkTest.pair(1, 1);
+        one(x, 500, 0, 1);
+        for (int size : new int[] {500, 500, 500, 481}) {
+            one(x, size, 0, 2);
+        }
+        int above = one(x, 20, 0, 3);
+        int last = one(x, 20, 0, 502);
+        x.step(3);
+        c.same("36: 1981 wait", x.waiting(0, false), 1981);
+        c.same("45: with 20 more it were 2001", x.dropped(above, 4), 1);
+        for (int i = 0; i < 10; i++) {
+            x.step(50);
+        }
+        c.same("45: then there is room", x.dropped(last, 4), 0);
+        c.same("36: the next one is sent", x.waiting(0, false), 1481 + 20);
     }
 
     private static void promise36Early() {

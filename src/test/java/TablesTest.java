@@ -6,6 +6,7 @@ public final class TablesTest {
         promise28Entries();
         promise28WhichEntry();
         promise28OldLetters();
+        promise28MostEntries();
         promise29And30NodesAndDepth();
         promise30DeepestTrie();
         promise31Looks();
@@ -84,6 +85,37 @@ public final class TablesTest {
         x.step(1);
         c.same("28: the newer letter came", x.letterOf(0, 2), 3);
         c.same("28: it has no network", x.entries(0), 0);
+    }
+
+    // Letters with 24 networks of each of seven routers come to 0 in one tick, those that take them back a tick later.
+    private static void promise28MostEntries() {
+        Switchyard x = NetworkTest.withRouters(8);
+        for (int router = 1; router < 8; router++) {
+            x.addLink(0, router, 1, 100, 21 - router);
+        }
+        x.step(60);
+        for (int router = 1; router < 8; router++) {
+            for (int i = 0; i < 24; i++) {
+                x.addNetwork(router, router * 32 + i << 8, 8);
+            }
+            x.step(1);
+            for (int i = 0; i < 24; i++) {
+                x.dropNetwork(0);
+            }
+        }
+        for (int i = 0; i < 24; i++) {
+            x.addNetwork(0, i << 8, 8);
+            x.addStatic(0, 24 << 8 | i, 16, 0);
+        }
+        x.step(13);
+        c.same("28: its own ones and STATIC ones", x.entries(0), 48);
+        x.step(1);
+        c.same("28: with all that it learned", x.entries(0), 48 + 7 * 24);
+        c.same("32: the first one of the last router", x.found(0, 7 * 32 << 8), 8);
+        c.same("33: the last one of them", x.sortOf(0, 7 * 32 + 23 << 8), 2);
+        c.same("33: STATIC", x.sortOf(0, 24 << 8 | 23), 1);
+        x.step(1);
+        c.same("28: what it learned is gone", x.entries(0), 48);
     }
 
     private static void promise29And30NodesAndDepth() {
