@@ -1617,14 +1617,10 @@ public final class Switchyard {
             return NOT_FOUND;
         }
 
+        // by the same tables, more steps than there are routers lead to one of them once more
         int follow(int flow) {
             int at = flows[flow].router;
-            int seen = 0;
-            for (int steps = 0; steps <= MOST_ROUTERS; steps++) {
-                if (((seen >> at) & 1) != 0) {
-                    return ROUND;
-                }
-                seen |= 1 << at;
+            for (int steps = 0; steps < MOST_ROUTERS; steps++) {
                 int link = linkToward(at, flow);
                 if (link == HERE) {
                     return steps;

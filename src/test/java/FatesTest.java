@@ -6,6 +6,7 @@ public final class FatesTest {
 
     public static void main(String[] args) {
         promise41To43Shaper();
+        promise42TenAtOnce();
         promise44Delivered();
         promise45NoEntryAndDown();
         promise45DownOfALearnedEntry();
@@ -41,6 +42,28 @@ public final class FatesTest {
         c.same("42: nine wait", x.shaping(0), 9);
         c.same("46: that of tick 2", x.latest(0), 101 - 2);
         c.same("47: in the mean", x.meanLate(0), 49.5);
+        x.shape(0, 1, 5000);
+        x.step(1);
+        c.same("44: all nine go on in one tick", x.delivered(0), 11);
+        c.same("42: none waits", x.shaping(0), 0);
+    }
+
+    private static void promise42TenAtOnce() {
+        Switchyard x = NetworkTest.withRouters(1);
+        x.addNetwork(0, 0, 0);
+        x.addFlow(0, 9, 20, 0);
+        x.addFlow(0, 9, 500, 0);
+        x.step(1);
+        x.shape(1, 1, 500);
+        x.schedule(1, 1, 1, 11);
+        x.step(11);
+        c.same("42: ten wait", x.shaping(1), 10);
+        c.same("49: ahead none has enough tokens", x.deliveredIn(1, 60), 1);
+        x.shape(1, 1, 5000);
+        c.same("49: ahead all have", x.deliveredIn(1, 1), 11);
+        x.step(1);
+        c.same("44: all ten go on in one tick", x.delivered(1), 11);
+        c.same("43: all tokens are taken", x.tokens(1), 0);
     }
 
     private static void promise44Delivered() {

@@ -12,6 +12,7 @@ public final class NetworkTest {
         promise5SetUp();
         promise5LettersOfDown();
         promise5PacketsOfDown();
+        promise5WholeLinkOfDown();
         promise6AddNetwork();
         promise7DropNetwork();
         promise8AddStatic();
@@ -156,6 +157,8 @@ public final class NetworkTest {
         c.same("5: the distance stays", x.distance(0, 1), 5);
         x.step(1);
         c.same("5: no way", x.distance(0, 1), -1);
+        c.same("5: no way back", x.distance(1, 0), -1);
+        c.same("5: no first links", x.firstLinks(0, 1) + x.firstLinks(1, 0), 0);
         c.same("5: UP, and was DOWN", x.setUp(0, true), false);
         c.same("5: it is UP", x.isUp(0), true);
         c.same("5: both write, and send the old one of each other", x.letters(), 4);
@@ -204,6 +207,17 @@ public final class NetworkTest {
         x.setUp(0, true);
         x.step(40);
         c.same("5: none comes later", x.delivered(0) + x.delivered(1), 0);
+    }
+
+    private static void promise5WholeLinkOfDown() {
+        Switchyard x = pair(200, 20);
+        x.addFlow(0, 9, 20, 0);
+        x.schedule(0, 1, 1, 60);
+        x.step(30);
+        c.same("5: one in each tick of the delay", x.onLink(0), 20);
+        x.setUp(0, false);
+        c.same("5: all of them are dropped", x.dropped(0, 6), 20);
+        c.same("5: none is left", x.onLink(0), 0);
     }
 
     private static void promise6AddNetwork() {
