@@ -30,8 +30,8 @@ public final class RoomTest {
         c.count(made < MOST_BYTES, what + " made " + made + " bytes");
     }
 
+    // returns how many calls it took
     private static int fill(Switchyard x) {
-        int calls = 0;
         for (int i = 0; i < 8; i++) {
             x.addRouter();
         }
@@ -41,8 +41,7 @@ public final class RoomTest {
         for (int i = 0; i < 24; i++) {
             x.addNetwork(i % 2, i * 256, 8);
         }
-        calls = 8 + 14 + 24;
-        return calls;
+        return 8 + 14 + 24;
     }
 
     private static void writeWithoutTicks(Switchyard x) {
