@@ -1,3 +1,7 @@
+import java.math.BigInteger;
+import java.util.ArrayList;
+import java.util.List;
+
 // Promises 49 to 51: what would be, and the checksum.
 public final class AheadTest {
     private static final Check c = new Check("AheadTest");
@@ -6,11 +10,16 @@ public final class AheadTest {
         promise49DeliveredIn();
         promise49AllStates();
         promise49WholeMinute();
+        promise49NetworksOfNow();
+        promise49StaticsOfNow();
+        promise49And50FullNetwork();
         promise49WrongNumbers();
         promise50SettledIn();
+        promise50ManyLetters();
         promise50WrongNumbers();
         promise51DigestOfNothing();
         promise51Digest();
+        promise51WrapsAround();
         c.end();
     }
 
@@ -29,7 +38,7 @@ public final class AheadTest {
     }
 
     // a network with nearly all that there is: disciplines, shapers, EARLY ports, letters on their way, failing links
-    private static Switchyard busy() {
+    static Switchyard busy() {
         Switchyard x = NetworkTest.withRouters(4);
         x.addLink(0, 1, 2, 60, 2);
         x.addLink(1, 2, 2, 40, 3);
@@ -53,8 +62,8 @@ public final class AheadTest {
         return x;
     }
 
-    // what changes ahead of some ticks, and the tick
-    private static void goOn(Switchyard x, int tick) {
+    // what changes ahead of some ticks
+    private static void change(Switchyard x, int tick) {
         if (tick == 20 || tick == 60) {
             x.setUp(0, false);
         }
@@ -67,6 +76,10 @@ public final class AheadTest {
             x.addNetwork(0, 0, 1);
             x.setPort(1, false, 2, 5000, false);
         }
+    }
+
+    static void goOn(Switchyard x, int tick) {
+        change(x, tick);
         x.step(1);
     }
 
@@ -75,22 +88,22 @@ public final class AheadTest {
         Switchyard x = busy();
         Switchyard silent = busy();
         for (int tick = 0; tick < 90; tick++) {
+            for (int flow = 0; flow < 8; flow++) {
+                c.count(x.deliveredIn(flow, 60) >= x.deliveredIn(flow, 1), "49: more ticks tell no less");
+            }
+            change(x, tick);
             int[] ahead = new int[8];
             for (int flow = 0; flow < 8; flow++) {
                 ahead[flow] = x.deliveredIn(flow, 1);
-                c.count(x.deliveredIn(flow, 60) >= ahead[flow], "49: more ticks tell no less");
             }
             int settled = x.settledIn(1 + tick % 60);
-            goOn(x, tick);
+            x.step(1);
             goOn(silent, tick);
             c.same("49: nothing is changed in tick " + tick, x.digest(), silent.digest());
-            boolean isSame = tick != 20 && tick != 30 && tick != 40 && tick != 60;
-            for (int flow = 0; flow < 8 && isSame; flow++) {
+            for (int flow = 0; flow < 8; flow++) {
                 c.same("49: flow " + flow + " in tick " + tick, ahead[flow], x.delivered(flow));
             }
-            if (isSame) {
-                c.same("50: settled behind tick " + tick, x.isSettled(), settled == 0 || settled == 1);
-            }
+            c.same("50: settled behind tick " + tick, x.isSettled(), settled == 0 || settled == 1);
         }
         int delivered = 0;
         int early = 0;
@@ -126,6 +139,67 @@ public final class AheadTest {
         }
     }
 
+    // what was told or taken away since the last tick counts ahead, too
+    private static void promise49NetworksOfNow() {
+        Switchyard x = NetworkTest.withRouters(1);
+        x.addFlow(0, 40000, 20, 0);
+        x.schedule(0, 0, 1, 9);
+        c.same("49: no network", x.deliveredIn(0, 5), 0);
+        x.addNetwork(0, 0, 1);
+        c.same("49: one that does not fit", x.deliveredIn(0, 5), 0);
+        x.addNetwork(0, 32768, 1);
+        c.same("49: one that fits, behind the tick 0", x.deliveredIn(0, 5), 4);
+        c.same("49: not in the tick 0", x.deliveredIn(0, 1), 0);
+        x.dropNetwork(1);
+        c.same("49: it is gone again", x.deliveredIn(0, 5), 0);
+    }
+
+    private static void promise49StaticsOfNow() {
+        Switchyard x = NetworkTest.withRouters(2);
+        x.addLink(0, 1, 1, 200, 1);
+        x.addFlow(0, 40000, 20, 0);
+        x.addNetwork(1, 32768, 1);
+        x.addNetwork(1, 40960, 16);
+        x.dropNetwork(0);
+        x.step(9);
+        x.schedule(0, 9, 1, 9);
+        x.addStatic(0, 0, 1, 0);
+        c.same("49: a static route that does not fit", x.deliveredIn(0, 9), 0);
+        x.addStatic(0, 32768, 1, 0);
+        c.same("49: nothing is found behind it", x.deliveredIn(0, 9), 0);
+        x.addNetwork(1, 40000, 16);
+        // offered from the tick 10 on, each comes a tick later
+        c.same("49: now it is", x.deliveredIn(0, 9), 7);
+        x.dropStatic(1);
+        // the letter with the network comes in the tick 10
+        c.same("49: it is learned, too", x.deliveredIn(0, 9), 6);
+        x.dropNetwork(1);
+        c.same("49: it is gone again", x.deliveredIn(0, 9), 0);
+    }
+
+    private static void promise49And50FullNetwork() {
+        Switchyard x = CallEdgesTest.full();
+        for (int i = 0; i < 12; i++) {
+            x.schedule(i, 20, 1, 60);
+        }
+        x.setUp(13, false);
+        x.step(30);
+        x.setCost(12, 2);
+        int settled = x.settledIn(60);
+        int[] ahead = new int[12];
+        for (int i = 0; i < 12; i++) {
+            ahead[i] = x.deliveredIn(i, 60);
+        }
+        for (int ticks = 1; ticks <= 60; ticks++) {
+            x.step(1);
+            c.count(ticks > settled || (ticks == settled) == x.isSettled(), "50: of a full network in " + ticks);
+        }
+        for (int i = 0; i < 12; i++) {
+            c.same("49: of a full network, flow " + i, ahead[i], x.delivered(i));
+        }
+        c.count(ahead[0] + ahead[1] > 0 && settled > 1, "49: there was something to tell");
+    }
+
     private static void promise49WrongNumbers() {
         Switchyard x = NetworkTest.pair(50, 3);
         x.addFlow(0, 9, 120, 2);
@@ -153,6 +227,26 @@ public final class AheadTest {
         c.same("50: one is left", x.settledIn(1), 1);
         x.step(1);
         c.same("50: none is left", x.settledIn(60), 0);
+    }
+
+    // one more on the link each time
+    private static void promise50ManyLetters() {
+        Switchyard x = NetworkTest.withRouters(2);
+        x.addLink(0, 1, 1, 1, 20);
+        x.addFlow(0, 9, 20, 0);
+        x.step(21);
+        for (int i = 0; i < 40; i++) {
+            x.addNetwork(0, 0, 0);
+            x.dropNetwork(0);
+            c.same("50: with " + x.letters(), x.settledIn(60), 21);
+            c.same("49: with " + x.letters(), x.deliveredIn(0, 21), 0);
+        }
+        x.addNetwork(0, 0, 0);
+        x.step(20);
+        c.same("50: all come in one tick", x.settledIn(1), 1);
+        c.same("50: they are on their way still", x.letters(), 81);
+        x.step(1);
+        c.same("50: they came", x.letters(), 0);
     }
 
     private static void promise50WrongNumbers() {
@@ -191,37 +285,55 @@ public final class AheadTest {
         c.same("51: it changes nothing", x.digest(), x.digest());
     }
 
+    // "which wraps around as a 64-bit integer": with numbers that have no end, cut to 64 bits only then
+    private static void promise51WrapsAround() {
+        Switchyard x = busy();
+        x.step(20);
+        List<Integer> numbers = numbersOf(x);
+        BigInteger d = BigInteger.valueOf(58026);
+        for (int number : numbers) {
+            d = d.multiply(BigInteger.valueOf(31)).add(BigInteger.valueOf(number));
+        }
+        c.count(d.bitLength() > 64, "51: it is too long for 64 bits");
+        c.same("51: cut to 64 bits", x.digest(), d.longValue());
+    }
+
     private static long digestOf(Switchyard x) {
         long d = 58026;
-        int[] counts = {x.time(), x.routers(), x.links(), x.networks(), x.statics(), x.flows(), x.letters()};
-        for (int count : counts) {
-            d = d * 31 + count;
+        for (int number : numbersOf(x)) {
+            d = d * 31 + number;
         }
+        return d;
+    }
+
+    private static List<Integer> numbersOf(Switchyard x) {
+        List<Integer> numbers = new ArrayList<>(List.of(x.time(), x.routers(), x.links(), x.networks(), x.statics(),
+            x.flows(), x.letters()));
         for (int r = 0; r < x.routers(); r++) {
             for (int of = 0; of < x.routers(); of++) {
-                d = ((d * 31 + x.letterOf(r, of)) * 31 + x.distance(r, of)) * 31 + x.firstLinks(r, of);
+                numbers.addAll(List.of(x.letterOf(r, of), x.distance(r, of), x.firstLinks(r, of)));
             }
-            d = ((d * 31 + x.entries(r)) * 31 + x.trieNodes(r)) * 31 + x.trieDepth(r);
+            numbers.addAll(List.of(x.entries(r), x.trieNodes(r), x.trieDepth(r)));
         }
         for (int l = 0; l < x.links(); l++) {
-            d = (d * 31 + (x.isUp(l) ? 1 : 0)) * 31 + x.onLink(l);
+            numbers.addAll(List.of(x.isUp(l) ? 1 : 0, x.onLink(l)));
             for (int end = 0; end < 2; end++) {
-                d = (d * 31 + x.waiting(l, end == 1)) * 31 + x.sending(l, end == 1);
+                numbers.addAll(List.of(x.waiting(l, end == 1), x.sending(l, end == 1)));
                 for (int of = 0; of < 4; of++) {
-                    d = (d * 31 + x.queued(l, end == 1, of)) * 31 + x.deficit(l, end == 1, of);
+                    numbers.addAll(List.of(x.queued(l, end == 1, of), x.deficit(l, end == 1, of)));
                 }
             }
         }
         for (int f = 0; f < x.flows(); f++) {
-            d = (((d * 31 + x.offered(f)) * 31 + x.shaping(f)) * 31 + x.tokens(f)) * 31 + x.delivered(f);
+            numbers.addAll(List.of(x.offered(f), x.shaping(f), x.tokens(f), x.delivered(f)));
             for (int reason = 0; reason < 7; reason++) {
-                d = d * 31 + x.dropped(f, reason);
+                numbers.add(x.dropped(f, reason));
             }
-            d = ((d * 31 + x.latest(f)) * 31 + x.outOfOrder(f)) * 31 + x.route(f);
+            numbers.addAll(List.of(x.latest(f), x.outOfOrder(f), x.route(f)));
             for (int r = 0; r < x.routers(); r++) {
-                d = d * 31 + x.nextLink(r, f);
+                numbers.add(x.nextLink(r, f));
             }
         }
-        return d;
+        return numbers;
     }
 }
